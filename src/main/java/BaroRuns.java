@@ -920,8 +920,9 @@ public final class BaroRuns {
         // The readings go into the state one by one, so that later ones meet those ahead of them.
         void readInto(State state) {
             position = 0;
+            taken = 0;
             faultPosition = NONE;
-            for (taken = 0; taken < TEXT_ROOM && position < length; taken++) {
+            for (int round = 0; round < TEXT_ROOM && position < length; round++) {
                 int start = position;
                 faultReason = takeReading() ? reasonAgainst(state.track(cell)) : FAULT_OF_FORM;
                 if (faultReason != NO_FAULT) {
@@ -929,6 +930,7 @@ public final class BaroRuns {
                     return;
                 }
                 state.track(cell).insert(point, time, pressure, temperature);
+                taken++;
             }
         }
 
