@@ -42,9 +42,9 @@ public final class BaroRuns {
     private final State now = new State();
     private final State trial = new State();
     private final History history = new History();
-    private final Survey firstSurvey = new Survey(now, 0);
-    private final Survey secondSurvey = new Survey(now, 1);
-    private final Survey thirdSurvey = new Survey(now, 2);
+    private final Survey firstSurvey = new Survey();
+    private final Survey secondSurvey = new Survey();
+    private final Survey thirdSurvey = new Survey();
     private final PointSum pointSum = new PointSum();
     private final Text text = new Text();
     private boolean stale = true;
@@ -406,9 +406,9 @@ public final class BaroRuns {
     // Many questions come between two changes, so the surveys are worked out once for all of them.
     private void refresh() {
         if (stale) {
-            firstSurvey.workOut();
-            secondSurvey.workOut();
-            thirdSurvey.workOut();
+            firstSurvey.workOut(now, 0);
+            secondSurvey.workOut(now, 1);
+            thirdSurvey.workOut(now, 2);
             stale = false;
         }
     }
@@ -511,6 +511,16 @@ public final class BaroRuns {
                 }
             }
             return false;
+        }
+
+        boolean standsOut(int reading, int limit) {
+            if (reading <= 0 || reading >= size - 1) {
+                return false;
+            }
+            int pressure = value(reading, PRESSURE);
+            int overBefore = pressure - value(reading - 1, PRESSURE);
+            int overNext = pressure - value(reading + 1, PRESSURE);
+            return overBefore > limit && overNext > limit || overBefore < -limit && overNext < -limit;
         }
 
         int insert(int point, int time, int pressure, int temperature) {
@@ -708,8 +718,8 @@ public final class BaroRuns {
 
     /** What follows for one cell from its readings, those of the base and the settings. */
     private static final class Survey {
-        private final State state;
-        private final Track track;
+        private final int[] times = new int[CELL_ROOM];
+        private final int[] points = new int[CELL_ROOM];
         private final int[] heights = new int[CELL_ROOM];
         private final int[] gusts = new int[CELL_ROOM];
         private final int[] openLoops = new int[CELL_ROOM];
@@ -719,20 +729,21 @@ public final class BaroRuns {
         private int size;
         private int loopCount;
 
-        Survey(State state, int cell) {
-            this.state = state;
-            this.track = state.track(cell);
+        Survey() {
         }
 
         // Loops need all good readings, and corrected heights need all loops: hence three rounds.
-        void workOut() {
+        void workOut(State state, int cell) {
+            Track track = state.track(cell);
             size = track.size;
             for (int reading = 0; reading < size; reading++) {
                 int time = track.value(reading, TIME);
                 int pressure = track.value(reading, PRESSURE);
                 int temperature = track.value(reading, TEMPERATURE);
+                put(times, reading, time);
+                put(points, reading, track.value(reading, POINT));
                 put(heights, reading, state.heightAt(time, pressure, temperature));
-                put(gusts, reading, standsOut(reading) ? 1 : 0);
+                put(gusts, reading, track.standsOut(reading, state.gustLimit) ? 1 : 0);
             }
             findLoops();
             for (int reading = 0; reading < size; reading++) {
@@ -770,7 +781,7 @@ public final class BaroRuns {
         }
 
         int minutes(int loop) {
-            return track.value(end(loop), TIME) - track.value(begin(loop), TIME);
+            return at(times, end(loop)) - at(times, begin(loop));
         }
 
         int misclosure(int loop) {
@@ -791,7 +802,7 @@ public final class BaroRuns {
 
         void addTo(PointSum sum, int point) {
             for (int reading = 0; reading < size; reading++) {
-                if (isGood(reading) && track.value(reading, POINT) == point && !endsOpenLoop(reading)) {
+                if (isGood(reading) && at(points, reading) == point && !endsOpenLoop(reading)) {
                     sum.add(correctedHeight(reading));
                 }
             }
@@ -800,17 +811,6 @@ public final class BaroRuns {
         private boolean endsOpenLoop(int reading) {
             int loop = openLoopOf(reading);
             return loop != NONE && end(loop) == reading;
-        }
-
-        private boolean standsOut(int reading) {
-            if (reading == 0 || reading == size - 1) {
-                return false;
-            }
-            int pressure = track.value(reading, PRESSURE);
-            int overBefore = pressure - track.value(reading - 1, PRESSURE);
-            int overNext = pressure - track.value(reading + 1, PRESSURE);
-            int limit = state.gustLimit;
-            return overBefore > limit && overNext > limit || overBefore < -limit && overNext < -limit;
         }
 
         private void findLoops() {
@@ -826,9 +826,9 @@ public final class BaroRuns {
         }
 
         private int lastVisit(int reading) {
-            int point = track.value(reading, POINT);
+            int point = at(points, reading);
             for (int before = reading - 1; before >= 0; before--) {
-                if (isGood(before) && track.value(before, POINT) == point) {
+                if (isGood(before) && at(points, before) == point) {
                     return before;
                 }
             }
@@ -857,7 +857,7 @@ public final class BaroRuns {
             if (loop == NONE) {
                 return rawHeight(reading);
             }
-            long since = track.value(reading, TIME) - track.value(begin(loop), TIME);
+            long since = at(times, reading) - at(times, begin(loop));
             return (int) (rawHeight(reading) - divideDown(misclosure(loop) * since, minutes(loop)));
         }
     }

@@ -108,6 +108,30 @@ public final class LoopsTest {
         row("loop from the time of the base on", loopRow(x, 1, 0), 1, 2, -84237, -84237, 10);
     }
 
+    /** Promises 14 to 19: each question sees a change at once, whichever is asked first. */
+    private static void freshAnswers() {
+        DUE.is("loops at first", threeLoops(1).loops(1), 3);
+        DUE.is("loop at first", threeLoops(1).loop(1, 2, 4), 130);
+        DUE.is("openLoop at first", threeLoops(1).openLoop(1, 4), 2);
+        DUE.is("corrected at first", threeLoops(1).corrected(1, 4), 114607);
+        DUE.is("point at first", threeLoops(1).point(3, 0), 114607);
+        DUE.is("worst at first", threeLoops(1).worst(0), 1);
+        DUE.is("raw at first", threeLoops(1).raw(1, 1), 167631);
+        DUE.is("good at first", threeLoops(1).reading(1, 1, 5), 1);
+        DUE.is("loops counted at first", threeLoops(1).count(5), 3);
+        BaroRuns x = threeLoops(1);
+        DUE.is("before the height is set", x.corrected(1, 4), 114607);
+        x.set(0, 1);
+        DUE.is("when the height is set", x.corrected(1, 4), 114608);
+        x.undo();
+        DUE.is("when this is undone", x.corrected(1, 4), 114607);
+        Due.typeAll(x, "c1@3t140p100000c100;");
+        x.enter();
+        DUE.is("when a text is entered", x.loop(1, 2, 4), 10);
+        x.drop(1, 4);
+        DUE.is("when a reading is dropped", x.loop(1, 2, 4), 130);
+    }
+
     /** Promises 16 and 17. */
     private static void openLoop() {
         BaroRuns x = threeLoops(2);
@@ -200,6 +224,7 @@ public final class LoopsTest {
     public static void main(String[] args) {
         loops();
         badReadings();
+        freshAnswers();
         openLoop();
         point();
         worst();

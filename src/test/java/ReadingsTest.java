@@ -180,6 +180,7 @@ public final class ReadingsTest {
         DUE.is("below both, just the limit", middleGust(60, 90000, 89940, 90000), 0);
         DUE.is("below both, more", middleGust(60, 90000, 89939, 90000), 1);
         DUE.is("below both, one just the limit", middleGust(60, 89999, 89939, 90000), 0);
+        DUE.is("below both, the other just the limit", middleGust(60, 90000, 89939, 89999), 0);
         DUE.is("between both", middleGust(60, 90000, 95000, 100000), 0);
         DUE.is("between both, falling", middleGust(60, 100000, 95000, 90000), 0);
         DUE.is("limit 1", middleGust(1, 90000, 90002, 90000), 1);
@@ -203,6 +204,18 @@ public final class ReadingsTest {
         x.set(1, 500);
         DUE.is("gusts with a wider limit", x.count(4), 0);
         DUE.is("good ones with a wider limit", x.count(13), 4);
+
+        BaroRuns cells = new BaroRuns();
+        cells.base(0, 100000, 0);
+        cells.base(50, 100000, 0);
+        for (int cell = 0; cell < 3; cell++) {
+            cells.read(cell, 0, 10, 99000, 0);
+            cells.read(cell, 1, 20, 99500, 0);
+            cells.read(cell, 0, 30, 99000, 0);
+            DUE.is("gusts of the cells up to " + cell, cells.count(4), cell + 1);
+            DUE.is("loops of the cells up to " + cell, cells.count(5), cell + 1);
+            DUE.is("good ones of the cells up to " + cell, cells.count(13), 2 * cell + 2);
+        }
     }
 
     /** Promise 7. */
@@ -251,6 +264,19 @@ public final class ReadingsTest {
         DUE.is("with its values", x.reading(-1, 1, 2), 10);
     }
 
+    private static void undoOfSettings() {
+        BaroRuns x = new BaroRuns();
+        for (int what = 0; what < 3; what++) {
+            int first = x.count(10 + what);
+            x.set(what, 100 + what);
+            x.set(what, 200 + what);
+            x.undo();
+            DUE.is("setting " + what + " before the last", x.count(10 + what), 100 + what);
+            x.undo();
+            DUE.is("setting " + what + " at first", x.count(10 + what), first);
+        }
+    }
+
     private static void undoOfAllChanges() {
         BaroRuns x = new BaroRuns();
         x.base(0, 100000, 100);
@@ -293,6 +319,7 @@ public final class ReadingsTest {
         gusts();
         count();
         undo();
+        undoOfSettings();
         undoOfAllChanges();
         DUE.end();
     }

@@ -69,7 +69,7 @@ public final class TextsTest {
             "bt000001p99000c5;", "btp99000c5;", "bt-1p99000c5;", "bt1p0099000c5;", "bt1pc5;", "bt1p-99000c5;",
             "bt1p99000c0005;", "bt1p99000c;", "bt1p99000c-;", "bt1p99000c--5;", "bt1p99000c+5;",
             "bt1p99000c-0005;", "bt1p99000c5 ;", "bt1p99000t5;", "bp99000t1c5;", "bt1p99000c5,",
-            "bt:p99000c5;", "bt/p99000c5;"};
+            "bt:p99000c5;", "bt/p99000c5;", "bt1:p99000c5;", "bt1/p99000c5;"};
         for (String text : wrong) {
             fault(x, text, 0, 1);
         }
