@@ -115,9 +115,9 @@ public final class BaroRuns {
             case 3:
                 return now.track(what - 1).size;
             case 4:
-                return gustsOfAll();
+                return firstSurvey.gustCount + secondSurvey.gustCount + thirdSurvey.gustCount;
             case 5:
-                return loopsOfAll();
+                return firstSurvey.loopCount + secondSurvey.loopCount + thirdSurvey.loopCount;
             case 6:
                 return now.steps();
             case 7:
@@ -131,7 +131,7 @@ public final class BaroRuns {
             case 12:
                 return now.setting(what - 10);
             case 13:
-                return goodsOfAll();
+                return firstSurvey.goodCount + secondSurvey.goodCount + thirdSurvey.goodCount;
             default:
                 return INVALID_ARGUMENT;
         }
@@ -424,36 +424,6 @@ public final class BaroRuns {
         }
     }
 
-    private int gustsOfAll() {
-        int gusts = 0;
-        for (int cell = 0; cell < CELLS; cell++) {
-            Survey survey = surveyOf(cell);
-            for (int reading = 0; reading < survey.size; reading++) {
-                gusts += survey.isGust(reading) ? 1 : 0;
-            }
-        }
-        return gusts;
-    }
-
-    private int goodsOfAll() {
-        int goods = 0;
-        for (int cell = 0; cell < CELLS; cell++) {
-            Survey survey = surveyOf(cell);
-            for (int reading = 0; reading < survey.size; reading++) {
-                goods += survey.isGood(reading) ? 1 : 0;
-            }
-        }
-        return goods;
-    }
-
-    private int loopsOfAll() {
-        int all = 0;
-        for (int cell = 0; cell < CELLS; cell++) {
-            all += surveyOf(cell).loopCount;
-        }
-        return all;
-    }
-
     private int pointsWithHeight() {
         int points = 0;
         for (int point = 0; point < POINTS; point++) {
@@ -727,6 +697,8 @@ public final class BaroRuns {
         private final int[] begins = new int[CELL_ROOM];
         private final int[] ends = new int[CELL_ROOM];
         private int size;
+        private int gustCount;
+        private int goodCount;
         private int loopCount;
 
         Survey() {
@@ -745,6 +717,7 @@ public final class BaroRuns {
                 put(heights, reading, state.heightAt(time, pressure, temperature));
                 put(gusts, reading, track.standsOut(reading, state.gustLimit) ? 1 : 0);
             }
+            countKinds();
             findLoops();
             for (int reading = 0; reading < size; reading++) {
                 put(openLoops, reading, shortestLoop(reading));
@@ -811,6 +784,15 @@ public final class BaroRuns {
         private boolean endsOpenLoop(int reading) {
             int loop = openLoopOf(reading);
             return loop != NONE && end(loop) == reading;
+        }
+
+        private void countKinds() {
+            gustCount = 0;
+            goodCount = 0;
+            for (int reading = 0; reading < size; reading++) {
+                gustCount += isGust(reading) ? 1 : 0;
+                goodCount += isGood(reading) ? 1 : 0;
+            }
         }
 
         private void findLoops() {
