@@ -165,15 +165,16 @@ public final class BaseTest {
         DUE.is("all are higher", x.pressureFor(0, 100, -1000000), 110000);
         DUE.is("greatest height from a high base", x.pressureFor(0, 100, 10000000), 88633);
         for (int height = -900000; height < 10000000; height += 99991) {
-            checkPressureFor(x, 500, 37, height);
+            checkPressureFor(9000000, 500, 37, height);
         }
-        x.set(0, -500000);
         for (int height = -1000000; height < 6000000; height += 70001) {
-            checkPressureFor(x, 999, -300, height);
+            checkPressureFor(-500000, 999, -300, height);
         }
     }
 
-    private static void checkPressureFor(BaroRuns x, int time, int temperature, int height) {
+    private static void checkPressureFor(int baseHeight, int time, int temperature, int height) {
+        BaroRuns x = level();
+        x.set(0, baseHeight);
         int pressure = x.pressureFor(time, temperature, height);
         if (pressure == Due.MISSING) {
             DUE.is("not even the lowest " + height, x.would(time, 50000, temperature) < height ? 1 : 0, 1);

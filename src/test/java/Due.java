@@ -1,3 +1,5 @@
+import java.util.Arrays;
+
 /** Counts the answers that are not the ones due; one object for each test. */
 final class Due {
     static final int INVALID = -2000000001;
@@ -6,12 +8,30 @@ final class Due {
     static final int MISSING = -2000000004;
 
     private int wrong = 0;
+    private String sentence = "";
+
+    /** Says which sentence of the document the answers behind it belong to. */
+    void sentence(String words) {
+        sentence = "\"" + words + "\": ";
+    }
 
     void is(String call, long got, long want) {
         if (got != want) {
             wrong++;
-            System.out.println(call + " answered " + got + ", due is " + want);
+            System.out.println(sentence + call + " answered " + got + ", due is " + want);
         }
+    }
+
+    void same(String call, String got, String want) {
+        if (!got.equals(want)) {
+            wrong++;
+            System.out.println(sentence + call + ": [" + got + "], due is [" + want + "]");
+        }
+    }
+
+    /** Answers in a row: the answers to be compared with those that are due. */
+    void row(String call, int[] got, int... want) {
+        same(call, Arrays.toString(got), Arrays.toString(want));
     }
 
     boolean fine() {

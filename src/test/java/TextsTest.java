@@ -1,3 +1,5 @@
+import java.util.function.Supplier;
+
 /** Promises 20 to 23: type, clearText, fault, enter. */
 public final class TextsTest {
     private static final Due DUE = new Due();
@@ -6,9 +8,9 @@ public final class TextsTest {
         DUE.is(call + " [" + got + "], due [" + want + "]", got.equals(want) ? 1 : 0, 1);
     }
 
-    /** Types a text anew and looks at its fault: reason 0 stands for none. */
-    private static void fault(BaroRuns x, String text, int position, int reason) {
-        x.clearText();
+    /** Types a text into a new object and looks at its fault: reason 0 stands for none. */
+    private static void fault(Supplier<BaroRuns> made, String text, int position, int reason) {
+        BaroRuns x = made.get();
         Due.typeAll(x, text);
         DUE.is("position of the fault of " + text, x.fault(0), reason == 0 ? Due.MISSING : position);
         DUE.is("reason of the fault of " + text, x.fault(1), reason == 0 ? Due.MISSING : reason);
@@ -49,9 +51,9 @@ public final class TextsTest {
 
     /** Promise 22: reason 1. */
     private static void form() {
-        BaroRuns x = new BaroRuns();
-        DUE.is("what below", x.fault(-1), Due.INVALID);
-        DUE.is("what above", x.fault(2), Due.INVALID);
+        DUE.is("what below", new BaroRuns().fault(-1), Due.INVALID);
+        DUE.is("what above", new BaroRuns().fault(2), Due.INVALID);
+        Supplier<BaroRuns> x = BaroRuns::new;
         fault(x, "", 0, 0);
         String base = "bt1p99000c5;";
         String cell = "c0@0t1p99000c5;";
@@ -83,7 +85,7 @@ public final class TextsTest {
 
     /** Promise 22: reason 2. */
     private static void range() {
-        BaroRuns x = new BaroRuns();
+        Supplier<BaroRuns> x = BaroRuns::new;
         fault(x, "bt0p50000c-300;bt10000p110000c500;", 0, 0);
         fault(x, "c2@9t0p50000c-300;c2@0t10000p110000c500;", 0, 0);
         String[] wrong = {"bt10001p99000c5;", "bt99999p99000c5;", "bt1p49999c5;", "bt1p110001c5;", "bt1p0c5;",
@@ -94,15 +96,19 @@ public final class TextsTest {
             fault(x, "c1@1t1p99000c5;" + text, 15, 2);
         }
         fault(x, "bt1p1c5;x", 0, 2);
+        fault(TextsTest::twoTimes, "bt10p99000c501;", 0, 2);
+    }
+
+    private static BaroRuns twoTimes() {
+        BaroRuns x = new BaroRuns();
         x.base(10, 99000, 0);
-        fault(x, "bt10p99000c501;", 0, 2);
+        x.read(1, 0, 20, 99000, 0);
+        return x;
     }
 
     /** Promise 22: reason 3. */
     private static void time() {
-        BaroRuns x = new BaroRuns();
-        x.base(10, 99000, 0);
-        x.read(1, 0, 20, 99000, 0);
+        Supplier<BaroRuns> x = TextsTest::twoTimes;
         fault(x, "bt10p99000c0;", 0, 3);
         fault(x, "bt20p99000c0;", 0, 0);
         fault(x, "c1@5t20p99000c0;", 0, 3);
@@ -112,15 +118,21 @@ public final class TextsTest {
         fault(x, "bt5p99000c0;bt10p99000c0;x", 12, 3);
     }
 
-    /** Promise 22: reason 4. */
-    private static void room() {
+    /** Room for two readings of the base, for so many of cell 2, and for all of the others. */
+    private static BaroRuns nearlyFull(int room) {
         BaroRuns x = new BaroRuns();
         for (int i = 0; i < 10; i++) {
             x.base(i, 99000, 0);
         }
-        for (int i = 0; i < 19; i++) {
-            x.read(2, 0, i, 99000, 0);
+        for (int i = room; i < 20; i++) {
+            x.read(2, 0, i - room, 99000, 0);
         }
+        return x;
+    }
+
+    /** Promise 22: reason 4. */
+    private static void room() {
+        Supplier<BaroRuns> x = () -> nearlyFull(1);
         fault(x, "bt10p99000c0;bt11p99000c0;", 0, 0);
         fault(x, "bt10p99000c0;bt11p99000c0;bt12p99000c0;", 26, 4);
         fault(x, "bt10p99000c0;bt11p99000c0;bt11p99000c0;", 26, 3);
@@ -128,8 +140,7 @@ public final class TextsTest {
         fault(x, "c2@0t90p99000c0;", 0, 0);
         fault(x, "c2@0t90p99000c0;c1@0t90p99000c0;c2@1t91p99000c0;", 32, 4);
         fault(x, "c2@0t90p99000c0;bt90p99000c0;c2@1t90p99000c0;", 29, 3);
-        x.drop(2, 0);
-        fault(x, "c2@0t90p99000c0;c1@0t90p99000c0;c2@1t91p99000c0;", 0, 0);
+        fault(() -> nearlyFull(2), "c2@0t90p99000c0;c1@0t90p99000c0;c2@1t91p99000c0;", 0, 0);
     }
 
     /** Promise 23. */
