@@ -79,7 +79,7 @@ public final class FormTest {
 
     /** Words that the rules shut out; the comments and the imports of the library are left aside. */
     private static void words() throws Exception {
-        String source = Files.readString(Path.of(System.getProperty("main.source")));
+        String source = Files.readString(Path.of(System.getProperty("main.source", "src/main/java/BaroRuns.java")));
         String code = source.replaceAll("(?s)/\\*.*?\\*/", "").replaceAll("//[^\n]*", "")
             .replaceAll("import java\\.util\\.(ArrayList|List|Arrays|Iterator);", "");
         Matcher shut = Pattern.compile("\\b(throw|throws|try|catch|finally|synchronized|assert|import|package"
